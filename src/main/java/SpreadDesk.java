@@ -529,11 +529,11 @@ public final class SpreadDesk {
         }
 
         int steps(int node) {
-            return isNode(node) ? steps[node] : 0;
+            return node >= 0 && node < ALL_NODES ? steps[node] : 0;
         }
 
         int names(int node) {
-            return isNode(node) ? names[node] : 0;
+            return node >= 0 && node < ALL_NODES ? names[node] : 0;
         }
 
         void reset() {
@@ -581,7 +581,7 @@ public final class SpreadDesk {
 
         private int add(int what, int first, int second, int itsSteps, int itsNames) {
             int node = length;
-            if (!isNode(node)) {
+            if (node < 0 || node >= ALL_NODES) {
                 return FAULT;
             }
             kind[node] = what;
@@ -591,10 +591,6 @@ public final class SpreadDesk {
             names[node] = itsNames;
             length = node + 1;
             return node;
-        }
-
-        private static boolean isNode(int node) {
-            return node >= 0 && node < ALL_NODES;
         }
     }
 
@@ -670,6 +666,7 @@ public final class SpreadDesk {
                     return power(at(worth, a), b);
                 case MINUS:
                     return -at(worth, a);
+                case EARLIER:
                 default:
                     return at(worth, a);
             }
@@ -699,6 +696,7 @@ public final class SpreadDesk {
                     return b * power(at(worth, a), b - 1) * at(row, a);
                 case MINUS:
                     return -at(row, a);
+                case EARLIER:
                 default:
                     return at(row, a);
             }
@@ -729,6 +727,7 @@ public final class SpreadDesk {
                         + b * (b - 1) * power(at(worth, a), b - 2) * at(slope, a) * at(otherSlope, a);
                 case MINUS:
                     return -at(bend, a);
+                case EARLIER:
                 default:
                     return at(bend, a);
             }
@@ -1002,33 +1001,32 @@ public final class SpreadDesk {
 
         /** To the next token; letters that are none pass as themselves, for nothing asks for them. */
         private void pass() {
-            while (behind < length && letterAt(behind) == ' ') {
-                behind++;
+            int from = behind;
+            while (from >= 0 && from < length && from < LETTERS && letter[from] == ' ') {
+                from++;
             }
-            place = behind;
-            if (behind >= length) {
+            place = from;
+            behind = from + 1;
+            if (from < 0 || from >= length || from >= LETTERS) {
                 token = END;
-            } else if (isDigit(letterAt(behind))) {
-                passDigits();
+                behind = from;
+            } else if (isDigit(letter[from])) {
+                passDigits(letter[from] - '0');
             } else {
-                token = letterAt(behind);
-                behind++;
+                token = letter[from];
             }
         }
 
-        private void passDigits() {
-            while (behind < length && isDigit(letterAt(behind))) {
+        /** Two digits are as many as a number has; of more the value is of no use. */
+        private void passDigits(int ahead) {
+            int digits = 1;
+            number = ahead;
+            while (behind >= 0 && behind < length && behind < LETTERS && isDigit(letter[behind])) {
+                number = ahead * 10 + letter[behind] - '0';
+                digits++;
                 behind++;
             }
-            int digits = behind - place;
-            int ahead = letterAt(place) - '0';
-            boolean good = digits == 1 || digits == 2 && ahead != 0;
-            token = good ? DIGITS : WRONG;
-            number = digits == 1 ? ahead : ahead * 10 + letterAt(place + 1) - '0';
-        }
-
-        private int letterAt(int i) {
-            return i >= 0 && i < length && i < LETTERS ? letter[i] : END;
+            token = digits == 1 || digits == 2 && ahead != 0 ? DIGITS : WRONG;
         }
 
         private static boolean isDigit(int sign) {
