@@ -31,6 +31,15 @@ final class Due {
         }
     }
 
+    /** What desk() answers on a text, told to a new desk. */
+    void items(String text, int items) {
+        is("desk() on '" + text + "'", tell(new SpreadDesk(), text), items);
+    }
+
+    void fault(String text, int place) {
+        is("desk() on '" + text + "'", tell(new SpreadDesk(), text), -10 - place);
+    }
+
     void end() {
         System.out.println(asDue + " answers as due, " + wrong + " not");
         if (wrong != 0 || asDue == 0) {

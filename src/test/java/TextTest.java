@@ -3,11 +3,11 @@ public final class TextTest {
     private static final Due DUE = new Due();
 
     private static void items(String text, int items) {
-        DUE.is("desk() on '" + text + "'", Due.tell(new SpreadDesk(), text), items);
+        DUE.items(text, items);
     }
 
     private static void fault(String text, int place) {
-        DUE.is("desk() on '" + text + "'", Due.tell(new SpreadDesk(), text), -10 - place);
+        DUE.fault(text, place);
     }
 
     private static String again(String part, int times) {
