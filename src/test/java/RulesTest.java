@@ -27,8 +27,14 @@ public final class RulesTest {
         "int forget()", "int unseen(int)", "int keep(int)", "int back(int)", "int formula(int,int)",
         "int count(int)"};
 
+    private static final String[] GROUPS = {
+        "what is told: type clear desk source joint", "what is done: values spreads joints undo",
+        "formulas: value slope bend whole together share", "sure sources: left fewest takes first off",
+        "which source: sees forget unseen", "images: keep back formula count"};
+
     public static void main(String[] args) throws IOException {
         face();
+        groups();
         classes();
         words();
         objects();
@@ -72,6 +78,20 @@ public final class RulesTest {
         must("one public constructor", made.length == 1 && Modifier.isPublic(made[0].getModifiers())
             && made[0].getParameterCount() == 0);
         must("public and final", SpreadDesk.class.getModifiers() == (Modifier.PUBLIC | Modifier.FINAL));
+    }
+
+    private static void groups() throws IOException {
+        DUE.about("Ahead of the calls the interface says");
+        List<String> found = new java.util.ArrayList<>();
+        Matcher line = Pattern.compile("// ---- (.*)\\.?|public (?:int|long) ([a-z]+)\\(").matcher(Files.readString(FILE));
+        while (line.find()) {
+            if (line.group(1) != null) {
+                found.add(line.group(1) + ":");
+            } else if (!found.isEmpty()) {
+                found.set(found.size() - 1, found.get(found.size() - 1) + " " + line.group(2));
+            }
+        }
+        must("the calls in their order, under their headings: " + found, found.equals(List.of(GROUPS)));
     }
 
     private static List<Class<?>> allClasses() {
